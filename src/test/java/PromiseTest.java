@@ -289,6 +289,11 @@ public final class PromiseTest {
         dots(rim, 3, 0, 0, NONE, NONE, 0, NONE);
         dots(rim, 3, 15, 0, NONE, NONE, 1, NONE);
         dots(rim, 15, 15, 0, NONE, NONE, 0, NONE);
+        // Two columns off is not near, and a part that is near twice counts once.
+        BlobRuns off = drawn("#...#....#.#....", ".........###....");
+        dots(off, 0, 2, 0, NONE, NONE, 0, NONE);
+        dots(off, 0, 10, 0, NONE, NONE, 1, NONE);
+        dots(off, 0, 6, 0, NONE, NONE, 0, NONE);
     }
 
     private static void parts(BlobRuns x, int p, int... want) {
@@ -319,6 +324,17 @@ public final class PromiseTest {
         due("told(2)", z.told(2), 5);
         z.mode(8);
         parts(z, 0, 8, 26, 0, 2, 0, 7, 0, NONE, 0, 0);
+        // By corners two columns off is too far.
+        BlobRuns far = drawn("#.....#", "..#.#..", "#.....#");
+        due("told(2)", far.told(2), 6);
+        far.mode(8);
+        due("told(2) by 8", far.told(2), 6);
+        // A part that becomes smaller has its box anew.
+        BlobRuns w = drawn("################", "###");
+        parts(w, 0, 19, 36, 0, 1, 0, 15, 0, NONE, 0, 0);
+        w.row(0, 2);
+        w.row(1, 2);
+        parts(w, 0, 2, 6, 0, 1, 1, 1, 0, NONE, 0, 1);
     }
 
     private static void promise6() {
@@ -478,6 +494,12 @@ public final class PromiseTest {
         BlobRuns none = new BlobRuns();
         due("shrink() of nothing", none.shrink(), 0);
         due("told(10)", none.told(10), 1);
+        BlobRuns after = new BlobRuns();
+        after.row(0, 448);
+        after.row(15, 448);
+        due("grow()", after.grow(), 10);
+        due("shrink() after grow()", after.shrink(), 16);
+        shows("shrink() after grow()", after);
     }
 
     private static void promise13() {
@@ -653,6 +675,8 @@ public final class PromiseTest {
         // One at the left rim and its like at the right rim, one row lower.
         BlobRuns rims = drawn("#...............", "##............#.", "..............##");
         due("alike from rim to rim", rims.alike(0, 1), 1);
+        BlobRuns wide = drawn("################", "########........", "................", "################", "........########");
+        due("alike but for the row below", wide.alike(0, 1), 0);
         // What lies in a hole does not tell.
         BlobRuns holes = drawn(".#####.#####", ".#...#.#...#", ".#.#.#.#...#", ".#...#.#...#", ".#####.#####");
         due("alike but for what lies within", holes.alike(0, 1), 1);
@@ -734,6 +758,11 @@ public final class PromiseTest {
         due("goBack(0) again", x.goBack(0), 1);
         shows("goBack(0) again", x, "#.#", ".#.");
         due("seed again", x.seed(3), 77);
+        due("told(2), asked ahead of goBack", x.told(2), 1);
+        x.row(9, 21845);
+        due("told(2) of other rows", x.told(2), 9);
+        due("goBack(0) once more", x.goBack(0), 1);
+        due("told(2) once more", x.told(2), 1);
         refused("goBack(1), never kept", x, o -> o.goBack(1), NOT);
     }
 }
