@@ -335,6 +335,7 @@ public final class PromiseTest {
         w.row(0, 2);
         w.row(1, 2);
         parts(w, 0, 2, 6, 0, 1, 1, 1, 0, NONE, 0, 1);
+        parts(drawn("#", "#"), 0, 2, 6, 0, 1, 0, 0, 0, NONE, 0, 0);
     }
 
     private static void promise6() {
@@ -644,6 +645,10 @@ public final class PromiseTest {
         x.alike(0, 1);
         x.small(3);
         due("no deeds", x.told(10), 0);
+        BlobRuns y = drawn("#.#", "###");
+        due("told(2), asked ahead of undo", y.told(2), 1);
+        due("undo(1)", y.undo(1), 2);
+        due("told(2) after undo", y.told(2), 2);
     }
 
     // ---- asked
