@@ -1,37 +1,10 @@
 import java.math.BigInteger;
 import java.util.ArrayList;
-import java.util.Arrays;
 import java.util.List;
 import java.util.function.ToIntFunction;
 
 /** Each promise of the document by itself: ordinary inputs, the edges that it names, and wrong inputs. */
-public final class PromiseTest {
-    private static final int NONE = -1, UNKNOWN = -1000000001, OUTSIDE = -1000000002, NOT = -1000000003;
-    private static final int MIN = Integer.MIN_VALUE, MAX = Integer.MAX_VALUE;
-    private static int wrong = 0;
-    private static int checks = 0;
-    private static int promise = 0;
-
-    // A ring with two holes; in its left hole a ring with a dot in it; a dot on the rim, and two alike.
-    private static final String[] NEST = {
-        "................",
-        ".###########....",
-        ".#.......#.#..#.",
-        ".#.#####.#.#....",
-        ".#.#...#.###....",
-        ".#.#.#.#...#..#.",
-        ".#.#...#...#....",
-        ".#.#####...#....",
-        ".#.........#....",
-        ".###########....",
-        "................",
-        "..##....##......",
-        "..#.....#.......",
-        "................",
-        "................",
-        "###.............",
-    };
-
+public final class PromiseTest extends Check {
     public static void main(String[] args) {
         promise1();
         promise2();
@@ -58,69 +31,10 @@ public final class PromiseTest {
         promise20();
         promise21();
         promise22();
-        System.out.println(checks + " checks, " + wrong + " wrong");
-        System.exit(wrong == 0 ? 0 : 1);
+        end();
     }
 
     // ---- the tools
-
-    private static void due(String call, int got, int want) {
-        checks++;
-        if (got != want) {
-            wrong++;
-            System.out.println("promise " + promise + ": " + call + " answered " + got + ", due is " + want);
-        }
-    }
-
-    private static int set(String row) {
-        int set = 0;
-        for (int c = 0; c < row.length(); c++) {
-            set |= row.charAt(c) == '#' ? 1 << c : 0;
-        }
-        return set;
-    }
-
-    /** Rows from 0 on as drawn, the others light. */
-    private static BlobRuns drawn(String... rows) {
-        BlobRuns x = new BlobRuns();
-        for (int r = 0; r < rows.length; r++) {
-            x.row(r, set(rows[r]));
-        }
-        return x;
-    }
-
-    private static BlobRuns dark() {
-        String[] rows = new String[16];
-        Arrays.fill(rows, "################");
-        return drawn(rows);
-    }
-
-    private static void shows(String call, BlobRuns x, String... rows) {
-        for (int r = 0; r < 16; r++) {
-            due(call + ", then rowAt(" + r + ", 0)", x.rowAt(r, 0), r < rows.length ? set(rows[r]) : 0);
-        }
-    }
-
-    private static List<Integer> pictureAndMode(BlobRuns x) {
-        List<Integer> all = new ArrayList<>();
-        for (int r = 0; r < 16; r++) {
-            all.add(x.rowAt(r, 0));
-        }
-        all.add(x.told(0));
-        return all;
-    }
-
-    /** Everything that can be seen but the images; few enough calls for an object to be used for 512. */
-    private static List<Integer> seen(BlobRuns x) {
-        List<Integer> all = pictureAndMode(x);
-        for (int what = 1; what <= 10; what++) {
-            all.add(x.told(what));
-        }
-        int seed = x.seed(0);
-        x.seed(seed);
-        all.add(seed);
-        return all;
-    }
 
     private interface Call {
         int of(BlobRuns x, int v);
@@ -143,7 +57,7 @@ public final class PromiseTest {
     // ---- the picture
 
     private static void promise1() {
-        promise = 1;
+        about("promise 1");
         BlobRuns x = new BlobRuns();
         shows("new", x);
         int[] told = {4, 0, 0, 0, 1, 1000, 0, 0, NONE, NONE, 0};
@@ -160,7 +74,7 @@ public final class PromiseTest {
     }
 
     private static void promise2() {
-        promise = 2;
+        about("promise 2");
         BlobRuns x = drawn(NEST);
         int[] told = {4, 68, 8, 3, 4, 1005, 34, 146, 2, 0, 16};
         for (int what = 0; what < told.length; what++) {
@@ -176,7 +90,7 @@ public final class PromiseTest {
     }
 
     private static void promise2Most() {
-        promise = 2;
+        about("promise 2");
         BlobRuns x = new BlobRuns();
         for (int r = 0; r < 16; r++) {
             x.row(r, r % 2 == 0 ? 21845 : 43690);
@@ -214,7 +128,7 @@ public final class PromiseTest {
     }
 
     private static void promise3() {
-        promise = 3;
+        about("promise 3");
         BlobRuns x = new BlobRuns();
         int[] sets = {0, 65535, 21845, 43690, 32769, 1, 32768, 61455, 27030};
         int[] runs = {0, 1, 8, 8, 2, 1, 1, 2, 5};
@@ -229,14 +143,8 @@ public final class PromiseTest {
         refused("rowAt(0, ?)", x, OUTSIDE, (o, v) -> o.rowAt(0, v), -1, 2, MIN, MAX);
     }
 
-    private static void dots(BlobRuns x, int r, int c, int... want) {
-        for (int what = 0; what < want.length; what++) {
-            due("dot(" + r + ", " + c + ", " + what + ")", x.dot(r, c, what), want[what]);
-        }
-    }
-
     private static void promise4() {
-        promise = 4;
+        about("promise 4");
         BlobRuns x = drawn(NEST);
         dots(x, 1, 1, 1, 0, NONE, NONE, 1);
         dots(x, 4, 10, 1, 0, NONE, NONE, 1);
@@ -259,7 +167,7 @@ public final class PromiseTest {
     }
 
     private static void promise4Edges() {
-        promise = 4;
+        about("promise 4");
         BlobRuns star = drawn("#.#", ".#.", "#.#");
         dots(star, 1, 1, 1, 2, NONE, NONE, 0);
         dots(star, 0, 1, 0, NONE, NONE, 3, NONE);
@@ -296,14 +204,8 @@ public final class PromiseTest {
         dots(off, 0, 6, 0, NONE, NONE, 0, NONE);
     }
 
-    private static void parts(BlobRuns x, int p, int... want) {
-        for (int what = 0; what < want.length; what++) {
-            due("part(" + p + ", " + what + ")", x.part(p, what), want[what]);
-        }
-    }
-
     private static void promise5() {
-        promise = 5;
+        about("promise 5");
         BlobRuns x = drawn(NEST);
         parts(x, 0, 40, 78, 1, 9, 1, 11, 2, NONE, 0, 17);
         parts(x, 1, 1, 4, 2, 2, 14, 14, 0, NONE, 0, 46);
@@ -339,7 +241,7 @@ public final class PromiseTest {
     }
 
     private static void promise6() {
-        promise = 6;
+        about("promise 6");
         BlobRuns x = drawn(NEST);
         int[][] want = {{32, 0, 1, 34}, {2, 0, 0, 42}, {8, 2, 1, 68}};
         for (int h = 0; h < 3; h++) {
@@ -373,7 +275,7 @@ public final class PromiseTest {
     // ---- deeds
 
     private static void promise7() {
-        promise = 7;
+        about("promise 7");
         BlobRuns x = new BlobRuns();
         due("row(0, 5)", x.row(0, 5), 2);
         due("row(1, 7)", x.row(1, 7), 1);
@@ -391,7 +293,7 @@ public final class PromiseTest {
     }
 
     private static void promise8() {
-        promise = 8;
+        about("promise 8");
         BlobRuns x = new BlobRuns();
         int[][] places = {{0, 0}, {15, 15}, {0, 15}, {15, 0}, {7, 9}};
         for (int[] at : places) {
@@ -407,7 +309,7 @@ public final class PromiseTest {
     }
 
     private static void promise9() {
-        promise = 9;
+        about("promise 9");
         BlobRuns x = drawn("##..#", ".#...", ".##.#", "....#");
         refused("wipe(?)", x, UNKNOWN, (o, v) -> o.wipe(v), -1, 3, 256, MIN, MAX);
         due("wipe(0)", x.wipe(0), 5);
@@ -429,7 +331,7 @@ public final class PromiseTest {
     }
 
     private static void promise10() {
-        promise = 10;
+        about("promise 10");
         BlobRuns x = drawn(".#####", ".#.#.#", ".###.#", "...###");
         refused("fill(?)", x, UNKNOWN, (o, v) -> o.fill(v), -1, 2, 256, MIN, MAX);
         due("fill(1)", x.fill(1), 2);
@@ -447,7 +349,7 @@ public final class PromiseTest {
     }
 
     private static void promise11() {
-        promise = 11;
+        about("promise 11");
         BlobRuns x = drawn("#...............", "................", "....#...........", "...............#");
         due("grow()", x.grow(), 2 + 4 + 3);
         shows("grow()", x, "##..............", "#...#...........", "...###.........#", "....#.........##", "...............#");
@@ -470,7 +372,7 @@ public final class PromiseTest {
     }
 
     private static void promise12() {
-        promise = 12;
+        about("promise 12");
         String[] cross = {"......", "..##..", ".####.", ".####.", "..##.."};
         BlobRuns x = drawn(cross);
         due("shrink()", x.shrink(), 8);
@@ -504,7 +406,7 @@ public final class PromiseTest {
     }
 
     private static void promise13() {
-        promise = 13;
+        about("promise 13");
         String[] rows = {"#..............#", "..##............"};
         BlobRuns x = drawn(rows);
         due("move(0, 0)", x.move(0, 0), 4);
@@ -527,7 +429,7 @@ public final class PromiseTest {
     }
 
     private static void promise14() {
-        promise = 14;
+        about("promise 14");
         BlobRuns x = drawn("#.#", ".#.");
         due("over()", x.over(), 253);
         due("rowAt(0, 0)", x.rowAt(0, 0), 65530);
@@ -542,7 +444,7 @@ public final class PromiseTest {
     }
 
     private static void promise15() {
-        promise = 15;
+        about("promise 15");
         BlobRuns x = drawn("#.#", ".#.");
         refused("mode(4)", x, o -> o.mode(4), NOT);
         refused("mode(?)", x, OUTSIDE, (o, v) -> o.mode(v), -8, 0, 3, 5, 6, 7, 9, 12, MIN, MAX);
@@ -556,7 +458,7 @@ public final class PromiseTest {
     }
 
     private static void promise16() {
-        promise = 16;
+        about("promise 16");
         for (int seed : new int[] {0, 1, 127, 65535, 1000000007, MAX}) {
             BlobRuns x = new BlobRuns();
             x.seed(seed);
@@ -587,7 +489,7 @@ public final class PromiseTest {
     }
 
     private static void promise17() {
-        promise = 17;
+        about("promise 17");
         BlobRuns x = new BlobRuns();
         refused("undo(1) of nothing", x, o -> o.undo(1), NOT);
         for (int c = 0; c < 16; c++) {
@@ -625,7 +527,7 @@ public final class PromiseTest {
 
     /** Every deed is one, whether it changes a dot or not; what is no deed is none. */
     private static void promise17Deeds() {
-        promise = 17;
+        about("promise 17");
         BlobRuns x = drawn("###", "#.#", "###");
         x.keep(0);
         List<ToIntFunction<BlobRuns>> deeds = List.of(o -> o.row(5, 9), o -> o.turn(5, 1), o -> o.fill(0), o -> o.wipe(1),
@@ -654,7 +556,7 @@ public final class PromiseTest {
     // ---- asked
 
     private static void promise18() {
-        promise = 18;
+        about("promise 18");
         BlobRuns x = drawn("##.##.##..#.##", "#..#...#.##.##", "..............", "#.#.##........");
         // 0, 1: the same; 2: turned over; 3: turned round; 4: larger; 5, 6: dots; 7: two side by side.
         due("told(2)", x.told(2), 8);
@@ -688,7 +590,7 @@ public final class PromiseTest {
     }
 
     private static void promise19() {
-        promise = 19;
+        about("promise 19");
         BlobRuns x = drawn("#.#.##.###.####.");
         int[] want = {0, 2, 3, 4, 5, 5};
         for (int n = 0; n < want.length; n++) {
@@ -704,7 +606,7 @@ public final class PromiseTest {
     // ---- images
 
     private static void promise20() {
-        promise = 20;
+        about("promise 20");
         BlobRuns x = new BlobRuns();
         due("seed(MAX)", x.seed(MAX), 0);
         refused("seed(-1)", x, o -> o.seed(-1), OUTSIDE);
@@ -717,7 +619,7 @@ public final class PromiseTest {
     }
 
     private static void promise21() {
-        promise = 21;
+        about("promise 21");
         BlobRuns x = drawn("#.#");
         refused("keep(?)", x, UNKNOWN, (o, v) -> o.keep(v), -1, 2, MIN, MAX);
         due("goBack(0), nothing kept yet", x.goBack(0), NOT);
@@ -740,7 +642,7 @@ public final class PromiseTest {
     }
 
     private static void promise22() {
-        promise = 22;
+        about("promise 22");
         BlobRuns x = drawn("#.#", ".#.");
         refused("goBack(?)", x, UNKNOWN, (o, v) -> o.goBack(v), -1, 2, MIN, MAX);
         refused("goBack(0)", x, o -> o.goBack(0), NOT);
