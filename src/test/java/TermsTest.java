@@ -329,6 +329,14 @@ public final class TermsTest extends Refusals {
         for (int k = 0; k < 4; k++) {
             due("a cross: part(0, " + (2 + k) + ")", cross.part(0, 2 + k), k % 2 * 15);
         }
+        // A part that becomes smaller has its box anew.
+        cross.row(9, 64);
+        due("a cross without its arms: the least column", cross.part(0, 4), 6);
+        due("a cross without its arms: the greatest column", cross.part(0, 5), 6);
+        cross.row(15, 0);
+        due("a cross without its foot: the greatest row", cross.part(0, 3), 14);
+        cross.row(0, 0);
+        due("a cross without its head: the least row", cross.part(0, 2), 1);
         says("RUN: dark DOTS side by side in a ROW, as many as there are.");
         BlobRuns x = new BlobRuns();
         for (int set = 0; set < 65536; set++) {
@@ -419,6 +427,12 @@ public final class TermsTest extends Refusals {
         says("SHRUNK: each dark DOT with a light one, or none, there likewise becomes light, all at once.");
         everyPlaceShrunk(4);
         everyPlaceShrunk(8);
+        BlobRuns after = new BlobRuns();
+        after.row(0, 448);
+        after.row(15, 448);
+        after.grow();
+        after.shrink();
+        shows("shrink() after grow(), along the rim", after);
         BlobRuns all = dark();
         for (int left = 14; left >= 0; left -= 2) {
             all.shrink();
@@ -542,6 +556,7 @@ public final class TermsTest extends Refusals {
     private static void joinsAndSplits() {
         says("JOINS at a light DOT: how many PARTS would be one, were it dark (0: it would be one by itself).");
         everyNeighbourhood(3);
+        everyOtherPlace();
         BlobRuns x = drawn("###", "#.#", "#.#", "..#", "###");
         due("one part twice", x.dot(1, 1, 3), 1);
         due("by itself", x.dot(9, 9, 3), 0);
@@ -557,6 +572,22 @@ public final class TermsTest extends Refusals {
         // Far apart, but joined further on.
         BlobRuns far = drawn("################", "#..............#", "#..............#", "################");
         due("a wide ring", far.dot(0, 8, 4), 1);
+    }
+
+    /** One dark dot and a light one, wherever they are: none joins from further off, or over the rim. */
+    private static void everyOtherPlace() {
+        for (int place = 0; place < 256; place++) {
+            int r = place / 16, c = place % 16;
+            for (int mode = 4; mode <= 8; mode += 4) {
+                BlobRuns x = oneDot(r, c);
+                x.mode(mode);
+                for (int at = 0; at < 256; at++) {
+                    int joins = around(at / 16, at % 16, mode, (y, z) -> y == r && z == c);
+                    String call = "dot of " + at + ", 3, where " + place + " is dark by " + mode;
+                    due(call, x.dot(at / 16, at % 16, 3), at == place ? NONE : joins);
+                }
+            }
+        }
     }
 
     /** All that can lie around a dot: amid the picture, at each rim and in each corner, by both modes. */
@@ -607,6 +638,10 @@ public final class TermsTest extends Refusals {
         due("from corner to corner", far.alike(0, 1), 1);
         BlobRuns begins = drawn("##.##", "##..#", "....#");
         due("of one size, not of one form", begins.alike(0, 1), 0);
+        BlobRuns below = drawn("################", "########........", "................", "################", "........########");
+        due("from rim to rim, not the same below", below.alike(0, 1), 0);
+        below.row(4, 255);
+        due("from rim to rim, the same below", below.alike(0, 1), 1);
         BlobRuns tail = drawn("###.###", "#.....#");
         due("alike but for the last run", tail.alike(0, 1), 0);
         due("the first alike by 8", byEight(drawn("#...#", ".#.#.", "........", "#.......", ".#......")).alike(0, 1), 0);
