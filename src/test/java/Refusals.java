@@ -4,7 +4,7 @@ import java.util.Map;
 import java.util.function.Supplier;
 import java.util.function.ToIntFunction;
 
-/** Every way in which a call can be wrong, promise by promise: the refusal that is due, and that it changes nothing. */
+/** The ways in which a call can be wrong, promise by promise: the refusal that is due, and that it changes nothing. */
 abstract class Refusals extends Check {
     /** An object that can be made again and again in the same state, and what is wrong to ask of it. */
     record Scene(String name, Supplier<BlobRuns> made, int mode, int parts, int holes, int undoable, boolean... kept) { }
