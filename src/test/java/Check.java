@@ -100,6 +100,7 @@ abstract class Check {
         about("the sentences from " + from + " on");
         holds("the document goes on \"" + document.substring(same, Math.min(document.length(), same + 60))
             + "\", the tests \"" + tested.substring(same, Math.min(tested.length(), same + 60)) + "\"", document.equals(tested));
+        said.clear();
     }
 
     static void end() {
